@@ -624,11 +624,11 @@ public final class TouchTracker {
         private boolean joinAll() {
             boolean changed = false;
             for (int cell = 0; cell < CELLS; cell++) {
-                if (cell % COLUMNS < COLUMNS - 1) {
-                    changed |= join(cell, cell + 1);
+                if (cell % COLUMNS < COLUMNS - 1 && join(cell, cell + 1)) {
+                    changed = true;
                 }
-                if (cell < CELLS - COLUMNS) {
-                    changed |= join(cell, cell + COLUMNS);
+                if (cell < CELLS - COLUMNS && join(cell, cell + COLUMNS)) {
+                    changed = true;
                 }
             }
             return changed;

@@ -156,6 +156,12 @@ final class ContactTest {
         Check.same("none is water", x.contacts(), 2);
         x.set(TouchTracker.THRESHOLD, 41);
         Check.same("none is touched", x.contacts(), 0);
+        TouchTracker y = new TouchTracker();
+        y.set(TouchTracker.THRESHOLD, 1);
+        y.set(TouchTracker.SHARP, 1);
+        y.setRaw(7, 5, 1);
+        Check.same("the least contact of all", y.contacts(), 1);
+        due(y, 0, 700, 500, 1, 47);
     }
 
     private static void refusals() {

@@ -1,7 +1,8 @@
 /** Long runs of calls, drawn from a fixed row of numbers, with the answers that Model gives. */
 final class ModelTest {
     private static final int RUNS = 2500;
-    private static final int CALLS = 512;
+    /** An object is for 512 calls, and a piece of text is typed to its end. */
+    private static final int CALLS = 500;
     private static final int THROWN = 1 << 28;
     private static final String[] PIECES = {"s", "x", "b", ";", "p", "0", "3", "5", "7", ",", "1", "25", "6", "9",
         "s;", "x;", "b;", "p33,99;", "p00,120;", "p75,200;", "p14,80", ";s", ";s;", "p50,255", "p", "p2", "p41,"};
@@ -11,6 +12,7 @@ final class ModelTest {
     private final TouchTracker tracker = new TouchTracker();
     private final Model model = new Model();
     private final StringBuilder told = new StringBuilder();
+    private int calls;
     private boolean differs;
 
     private ModelTest(int run) {
@@ -21,12 +23,25 @@ final class ModelTest {
         for (int run = 0; run < RUNS; run++) {
             ModelTest test = new ModelTest(run);
             test.run(run % 5);
-            Check.yes("run " + run + " is as due:\n" + test.told, !test.differs);
-            if (test.differs) {
-                break;
+            test.endRun(run);
+        }
+        for (int run = RUNS; run < RUNS + 200; run++) {
+            ModelTest test = new ModelTest(run);
+            if (run % 2 == 0) {
+                test.runCrowd();
+            } else {
+                test.runTexts();
             }
+            test.endRun(run);
         }
         Check.end();
+    }
+
+    private void endRun(int run) {
+        if (differs) {
+            Check.yes("run " + run + " is as due:\n" + told, false);
+            Check.end();
+        }
     }
 
     private int draw(int bound) {
@@ -49,9 +64,61 @@ final class ModelTest {
             call(4, TouchTracker.SHARP, 1, 0);
             call(4, TouchTracker.THRESHOLD, 1, 0);
         }
-        for (int i = 3; i < CALLS && !differs; i++) {
+        while (calls < CALLS && !differs) {
             step(kind);
         }
+    }
+
+    /** Frames with many contacts on whole rows and columns, so that many matchings cost the same. */
+    private void runCrowd() {
+        call(4, TouchTracker.GATE, 150 + draw(10) * 50, 0);
+        for (int frame = 0; frame < 20 && !differs; frame++) {
+            call(2, 0, 0, 0);
+            for (int i = draw(8); i >= 0; i--) {
+                call(0, draw(4) * 2 + draw(2), draw(3) * 2 + frame % 2, 50);
+            }
+            for (int track = 0; track < 6; track++) {
+                call(19, track, 0, 0);
+            }
+            call(21, 0, 0, 0);
+            call(23, 0, 0, 0);
+            call(5, 0, 0, 0);
+            call(17, draw(6), draw(4), 0);
+        }
+    }
+
+    /** Valid texts, and some in which one character is another one. */
+    private void runTexts() {
+        while (calls < CALLS - 90 && !differs) {
+            String text = text();
+            int odd = draw(3) == 0 ? draw(text.length()) : -1;
+            for (int i = 0; i < text.length(); i++) {
+                call(32, i == odd ? 32 + draw(95) : text.charAt(i), 0, 0);
+            }
+            call(30, 0, 0, 0);
+            call(33, 0, 0, 0);
+            call(30, 0, 0, 0);
+            call(23, 0, 0, 0);
+            call(28, 0, 0, 0);
+            call(17, draw(6), draw(4), 0);
+            call(31, 0, 0, 0);
+        }
+    }
+
+    private String text() {
+        StringBuilder text = new StringBuilder();
+        int commands = 1 + draw(9);
+        for (int i = 0; i < commands; i++) {
+            if (i > 0) {
+                text.append(';');
+            }
+            if (draw(2) == 0) {
+                text.append('p').append(draw(8)).append(draw(6)).append(',').append(1 + draw(255));
+            } else {
+                text.append("sssxb".charAt(draw(5)));
+            }
+        }
+        return text.toString();
     }
 
     private void step(int kind) {
@@ -105,6 +172,7 @@ final class ModelTest {
     }
 
     private void call(int number, int a, int b, int c) {
+        calls++;
         long got = answer(number, a, b, c, false);
         long want = answer(number, a, b, c, true);
         told.append(number).append('(').append(a).append(", ").append(b).append(", ").append(c).append(") ");

@@ -8,6 +8,7 @@ final class PanelTest {
         setRaw();
         setRawRefuses();
         press();
+        pressWithAllForce();
         pressAtEdges();
         pressEndsAt255();
         pressRefuses();
@@ -92,6 +93,19 @@ final class PanelTest {
         x.undo();
         x.undo();
         Check.same("after undo", x.raw(3, 3), 7);
+    }
+
+    /** A great force reaches no further than a small one. */
+    private static void pressWithAllForce() {
+        TouchTracker x = new TouchTracker();
+        x.press(4, 2, 255);
+        for (int row = 0; row < 8; row++) {
+            for (int column = 0; column < 6; column++) {
+                int away = Math.abs(row - 4) + Math.abs(column - 2);
+                boolean near = Math.abs(row - 4) <= 1 && Math.abs(column - 2) <= 1;
+                Check.same("raw " + row + " " + column, x.raw(row, column), near ? 255 >> away : 0);
+            }
+        }
     }
 
     private static void pressAtEdges() {

@@ -6,6 +6,7 @@ final class RegionTest {
         sideNeighborsConnect();
         rowsDoNotRunOn();
         windingRegion();
+        cupRegion();
         palms();
         water();
         countsByKind();
@@ -81,6 +82,19 @@ final class RegionTest {
         Check.same("the rest", x.regionSize(5, 0), 17);
     }
 
+    /** A cup: its left side has a higher number than its right side, and hears of it by the bottom alone. */
+    private static void cupRegion() {
+        TouchTracker x = new TouchTracker();
+        int[][] cells = {{5, 5}, {6, 3}, {6, 5}, {7, 3}, {7, 4}, {7, 5}};
+        for (int[] cell : cells) {
+            x.setRaw(cell[0], cell[1], 40);
+        }
+        Check.same("one region", x.regions(TouchTracker.FINGER), 1);
+        for (int[] cell : cells) {
+            Check.same("size at " + cell[0] + " " + cell[1], x.regionSize(cell[0], cell[1]), 6);
+        }
+    }
+
     private static void palms() {
         TouchTracker x = new TouchTracker();
         x.set(TouchTracker.PALM, 3);
@@ -107,6 +121,10 @@ final class RegionTest {
         Check.same("contacts", x.contacts(), 1);
         x.set(TouchTracker.SHARP, 31);
         Check.same("SHARP raised", x.regionKind(6, 4), TouchTracker.WATER);
+        x.setRaw(6, 3, 90);
+        Check.same("a greater signal", x.regionKind(6, 4), TouchTracker.FINGER);
+        x.setRaw(6, 3, 30);
+        Check.same("a greater signal that has gone", x.regionKind(6, 4), TouchTracker.WATER);
     }
 
     private static void countsByKind() {

@@ -122,8 +122,17 @@ final class TrackTest {
         dueUp(x, 0);
         touch(x, 0, 0);
         x.scan();
+        x.scan();
+        due(x, 0, 0, 0, 1, 0);
         x.release();
         Check.same("no grace", x.scan(), 1);
+        dueUp(x, 0);
+        touch(x, 6, 4);
+        x.scan();
+        // A track that is down anew has nothing of what it was before.
+        due(x, 0, 600, 400, 0, 0);
+        x.release();
+        Check.same("no grace again", x.scan(), 1);
         dueUp(x, 0);
     }
 

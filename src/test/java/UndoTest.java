@@ -73,6 +73,8 @@ final class UndoTest {
         x.set(TouchTracker.GRACE, 0);
         x.set(TouchTracker.GATE, 100);
         x.scan();
+        x.scan();
+        Check.same("age", x.track(0, 2), 1);
         String before = Check.lookAtState(x);
         x.release();
         x.calibrate();
@@ -84,7 +86,8 @@ final class UndoTest {
             x.undo();
         }
         Check.same("all is as it was", Check.lookAtState(x), before);
-        Check.same("frames", x.frames(), 1);
+        Check.same("frames", x.frames(), 2);
+        Check.same("age", x.track(0, 2), 1);
         Check.same("downs", x.downs(), 1);
         Check.same("ups", x.ups(), 0);
         Check.same("the baselines", x.signal(5, 4), 90);
