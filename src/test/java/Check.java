@@ -58,6 +58,28 @@ final class Check {
         fails(what, tracker, IllegalStateException.class, call);
     }
 
+    /** The four parts of a contact must be these. */
+    static void contact(TouchTracker tracker, int contact, int row, int column, int mass, int peak) {
+        same("row of " + contact, tracker.contact(contact, 0), row);
+        same("column of " + contact, tracker.contact(contact, 1), column);
+        same("mass of " + contact, tracker.contact(contact, 2), mass);
+        same("peak of " + contact, tracker.contact(contact, 3), peak);
+    }
+
+    /** Sets the raw values of the cells with these numbers. */
+    static void put(TouchTracker tracker, int value, int... cells) {
+        for (int cell : cells) {
+            tracker.setRaw(cell / COLUMNS, cell % COLUMNS, value);
+        }
+    }
+
+    /** Lifts all fingers, and puts one on each of the cells with these numbers. */
+    static void touch(TouchTracker tracker, int... cells) {
+        tracker.release();
+        put(tracker, 50, cells);
+    }
+
+    /** Empties the text buffer, and types this text. */
     static void type(TouchTracker tracker, String text) {
         tracker.clearText();
         for (int i = 0; i < text.length(); i++) {

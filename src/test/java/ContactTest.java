@@ -14,20 +14,13 @@ final class ContactTest {
         Check.end();
     }
 
-    private static void due(TouchTracker x, int contact, int row, int column, int mass, int peak) {
-        Check.same("row of " + contact, x.contact(contact, 0), row);
-        Check.same("column of " + contact, x.contact(contact, 1), column);
-        Check.same("mass of " + contact, x.contact(contact, 2), mass);
-        Check.same("peak of " + contact, x.contact(contact, 3), peak);
-    }
-
     private static void positions() {
         TouchTracker x = new TouchTracker();
         x.setRaw(0, 0, 50);
         x.setRaw(0, 1, 30);
-        due(x, 0, 0, 37, 80, 0);
+        Check.contact(x, 0, 0, 37, 80, 0);
         x.setRaw(1, 1, 3);
-        due(x, 0, 3, 39, 83, 0);
+        Check.contact(x, 0, 3, 39, 83, 0);
         Check.same("contacts", x.contacts(), 1);
         for (int part = 0; part < 4; part++) {
             Check.same("no contact 1", x.contact(1, part), TouchTracker.NONE);
@@ -42,9 +35,9 @@ final class ContactTest {
         x.setRaw(6, 5, 254);
         x.setRaw(7, 4, 254);
         x.setRaw(6, 4, 254);
-        due(x, 0, 650, 450, 1017, 47);
+        Check.contact(x, 0, 650, 450, 1017, 47);
         x.setRaw(6, 4, 0);
-        due(x, 0, 666, 466, 763, 47);
+        Check.contact(x, 0, 666, 466, 763, 47);
     }
 
     private static void blockCountsUntouchedCells() {
@@ -52,11 +45,11 @@ final class ContactTest {
         x.setRaw(3, 3, 40);
         x.setRaw(2, 2, 19);
         x.setRaw(4, 5, 200);
-        due(x, 0, (40 * 300 + 19 * 200) / 59, (40 * 300 + 19 * 200) / 59, 59, 21);
-        due(x, 1, 400, 500, 200, 29);
+        Check.contact(x, 0, (40 * 300 + 19 * 200) / 59, (40 * 300 + 19 * 200) / 59, 59, 21);
+        Check.contact(x, 1, 400, 500, 200, 29);
         x.setRaw(4, 4, 10);
-        due(x, 0, (40 * 300 + 19 * 200 + 10 * 400) / 69, (40 * 300 + 19 * 200 + 10 * 400) / 69, 69, 21);
-        due(x, 1, 400, (200 * 500 + 10 * 400) / 210, 210, 29);
+        Check.contact(x, 0, (40 * 300 + 19 * 200 + 10 * 400) / 69, (40 * 300 + 19 * 200 + 10 * 400) / 69, 69, 21);
+        Check.contact(x, 1, 400, (200 * 500 + 10 * 400) / 210, 210, 29);
     }
 
     private static void equalNeighbors() {
@@ -97,7 +90,7 @@ final class ContactTest {
         x.setRaw(1, 3, 100);
         Check.same("an equal one with a lower number neither", x.contacts(), 0);
         x.setRaw(1, 3, 101);
-        due(x, 0, 50, 250, 201, 9);
+        Check.contact(x, 0, 50, 250, 201, 9);
     }
 
     private static void severalPeaksOfARegion() {
@@ -107,8 +100,8 @@ final class ContactTest {
         x.setRaw(4, 3, 70);
         Check.same("one region", x.regions(TouchTracker.FINGER), 1);
         Check.same("two peaks", x.contacts(), 2);
-        due(x, 0, 400, (60 * 100 + 30 * 200) / 90, 90, 25);
-        due(x, 1, 400, (30 * 200 + 70 * 300) / 100, 100, 27);
+        Check.contact(x, 0, 400, (60 * 100 + 30 * 200) / 90, 90, 25);
+        Check.contact(x, 1, 400, (30 * 200 + 70 * 300) / 100, 100, 27);
     }
 
     private static final int[][] EIGHT = {{0, 0}, {0, 2}, {0, 4}, {2, 0}, {2, 2}, {2, 4}, {4, 0}, {4, 2}};
@@ -123,7 +116,7 @@ final class ContactTest {
         int[] kept = {1, 2, 4, 5, 6, 7};
         for (int contact = 0; contact < 6; contact++) {
             int[] cell = EIGHT[kept[contact]];
-            due(x, contact, 100 * cell[0], 100 * cell[1], masses[kept[contact]], 6 * cell[0] + cell[1]);
+            Check.contact(x, contact, 100 * cell[0], 100 * cell[1], masses[kept[contact]], 6 * cell[0] + cell[1]);
         }
         Check.same("no seventh", x.contact(6, 2), TouchTracker.NONE);
         Check.same("all regions stand", x.regions(TouchTracker.FINGER), 8);
@@ -161,7 +154,7 @@ final class ContactTest {
         y.set(TouchTracker.SHARP, 1);
         y.setRaw(7, 5, 1);
         Check.same("the least contact of all", y.contacts(), 1);
-        due(y, 0, 700, 500, 1, 47);
+        Check.contact(y, 0, 700, 500, 1, 47);
     }
 
     private static void refusals() {
